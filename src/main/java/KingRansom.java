@@ -203,7 +203,7 @@ public final class KingRansom {
         }
         past.push(now);
         for (int i = 0; i < n && now.fate == KEPT; i++) {
-            if (draw(100) < tale.death) {
+            if (drawOfHundred() < tale.death) {
                 now.fate = DEAD;
             } else {
                 now.passMonth(tale);
@@ -457,9 +457,9 @@ public final class KingRansom {
         return now.months > TOP_MONTHS ? FULL : 0;
     }
 
-    private int draw(int n) {
+    private int drawOfHundred() {
         drawn = (int) ((drawn * 1103515245L + 12345L) % SEED_ROUND);
-        return n > 0 ? drawn / 65536 % n : 0;
+        return drawn / 65536 % 100;
     }
 
     /** What one month brings, all at this rate but those in the set, who pay none. */

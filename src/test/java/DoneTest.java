@@ -11,6 +11,7 @@ public final class DoneTest {
         free();
         dies();
         drift();
+        driftByDraws();
         driftFull();
         undo();
         undoKeepsTwenty();
@@ -51,6 +52,11 @@ public final class DoneTest {
         check.due("payer(0, 0)", x.payer(0, 0), 121);
         check.due("payer(1, 0)", x.payer(1, 0), 73);
         check.due("told(8)", x.told(8), 3);
+        KingRansom six = Check.of("k1 1;p10 0;p20 0;p30 0;p40 0;p50 0;p60 0;");
+        for (int p = 0; p < 6; p++) {
+            six.rate(p, 100);
+        }
+        check.due("month(1) of six", six.month(1), 210);
         KingRansom y = Check.of(Check.WHOLE);
         y.rate(0, 50);
         y.rate(1, 100);
@@ -144,6 +150,9 @@ public final class DoneTest {
         check.due("told(11)", x.told(11), 1);
         check.due("free() again", x.free(), Check.NOT);
         check.due("told(9)", x.told(9), 9);
+        check.due("undo() of free", x.undo(), 3);
+        check.due("told(9)", x.told(9), 99);
+        check.due("told(11)", x.told(11), 0);
         KingRansom y = Check.of("k20 0;h1;h1;h1;");
         y.hostage(0, true);
         check.due("free() at 0 of 10", y.free(), Check.NOT);
@@ -216,6 +225,27 @@ public final class DoneTest {
         x.seed(seed);
         check.due("drift(1) of " + text, x.drift(1), due);
         check.due("told(8)", x.told(8), due == 0 ? 1 : 0);
+    }
+
+    /** From many seeds: how many months he lasts, and the seed behind it. */
+    private static void driftByDraws() {
+        check.part("promise 14, by draws");
+        KingRansom x = Check.of("k1 7;");
+        for (int from = 0; from < 400; from++) {
+            long seed = from * 5368709L;
+            x.seed((int) seed);
+            int lasts = 0;
+            boolean dead = false;
+            while (lasts < 24 && !dead) {
+                seed = (seed * 1103515245L + 12345L) & 0x7fffffffL;
+                dead = (seed >> 16) % 100 < 7;
+                lasts += dead ? 0 : 1;
+            }
+            check.due("drift(24)", x.drift(24), dead ? 2 : 0);
+            check.due("told(8)", x.told(8), lasts);
+            x.undo();
+            check.due("seed()", x.seed(0), seed);
+        }
     }
 
     private static void driftFull() {

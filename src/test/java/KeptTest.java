@@ -111,6 +111,11 @@ public final class KeptTest {
         x.weigh(2, 20);
         check.due("one is left", x.isShort(-1), 1);
         check.due("none parts one", x.isShort(-2), Check.NONE);
+        KingRansom nine = Check.of(Check.WHOLE);
+        nine.weigh(31, 91);
+        check.due("five by 9: two and three", nine.isShort(-2), 3);
+        nine.weigh(3, 31);
+        check.due("two by 9", nine.isShort(-2), 1);
         KingRansom one = Check.of("k1 1;w5 1;");
         check.due("isShort(-2) of one bag", one.isShort(-2), 1);
         one.weigh(1, 5);

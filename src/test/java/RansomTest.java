@@ -6,6 +6,7 @@ public final class RansomTest {
         newObject();
         feedCounts();
         ransomBegins();
+        ransomOfLess();
         ransomWithFault();
         ransomOfNothing();
         faults();
@@ -107,6 +108,29 @@ public final class RansomTest {
         check.due("payer(0, 0)", x.payer(0, 0), 400);
     }
 
+    /** What a longer text told ahead of it plays no part any more. */
+    private static void ransomOfLess() {
+        check.part("promise 3, a shorter text");
+        KingRansom x = Check.of(Check.WHOLE);
+        Check.tell(x, Check.WHOLE);
+        for (int p = 0; p < 3; p++) {
+            x.rate(p, 100);
+            x.hostage(p, true);
+        }
+        x.spread(500, -1);
+        check.due("ransom()", Check.tell(x, "k50 0;p10 0;h4;"), 1);
+        check.due("brings(100)", x.brings(100), 10);
+        check.due("spread(11, -1)", x.spread(11, -1), Check.NONE);
+        check.due("spread(10, 0)", x.spread(10, 0), 100);
+        check.due("spared(100, 11)", x.spared(100, 11), Check.NONE);
+        check.due("sell(0, 0)", x.sell(0, 0), 50);
+        check.due("isShort(-1)", x.isShort(-1), 0);
+        x.hostage(0, true);
+        check.due("homeOrder(-1)", x.homeOrder(-1), 4);
+        x.rate(0, 100);
+        check.due("month(2)", x.month(2), 10);
+    }
+
     private static void ransomWithFault() {
         check.part("promise 3, with a fault");
         KingRansom x = Check.of(Check.WHOLE);
@@ -137,6 +161,7 @@ public final class RansomTest {
         check.part("promise 3, an empty text");
         for (String text : new String[] {"", " ", "     "}) {
             KingRansom x = Check.of(Check.WHOLE);
+            Check.tell(x, Check.WHOLE);
             x.hostage(0, true);
             x.keep(0);
             x.weigh(1, 1);

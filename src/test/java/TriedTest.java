@@ -32,6 +32,7 @@ public final class TriedTest {
         check.due("brings(100) from now", x.brings(100), 320 + 9);
         x.dies();
         check.due("brings(100) of the dead", x.brings(100), 320 + 9);
+        check.due("brings(50) of six", Check.of("k1 1;p10 0;p20 0;p30 0;p40 0;p50 0;p60 0;").brings(50), 105);
     }
 
     private static void leastRate() {
