@@ -69,12 +69,8 @@ public final class RansomTest {
         check.due("fault()", x.fault(), 0);
         check.due("feed(32) again", x.feed(32), 1);
 
-        StringBuilder blanks = new StringBuilder();
-        for (int i = 0; i < 235; i++) {
-            blanks.append(' ');
-        }
         KingRansom y = new KingRansom();
-        check.due("240 letters", Check.tell(y, blanks + "k7 3;"), 0);
+        check.due("240 letters", Check.tell(y, " ".repeat(235) + "k7 3;"), 0);
         check.due("told(0)", y.told(0), 7);
     }
 
@@ -159,7 +155,7 @@ public final class RansomTest {
 
     private static void ransomOfNothing() {
         check.part("promise 3, an empty text");
-        for (String text : new String[] {"", " ", "     "}) {
+        for (String text : new String[] {"", " ", "     ", " ".repeat(240)}) {
             KingRansom x = Check.of(Check.WHOLE);
             Check.tell(x, Check.WHOLE);
             x.hostage(0, true);

@@ -39,6 +39,7 @@ public final class TriedTest {
         check.part("promise 17");
         KingRansom x = Check.of(Check.WHOLE);
         check.due("leastRate(0)", x.leastRate(0), 0);
+        check.due("leastRate(0) without payers", new KingRansom().leastRate(0), 0);
         check.due("leastRate(100)", x.leastRate(100), 14);
         check.due("leastRate(579)", x.leastRate(579), 100);
         check.due("leastRate(580)", x.leastRate(580), Check.NONE);
