@@ -28,6 +28,9 @@ public final class KingRansom {
     private static final int TOP_SELL_MONTH = 9;
     private static final int TOP_LETTERS_WRITTEN = 9;
 
+    /** Above all days and marks that can be added up. */
+    private static final int ABOVE_ALL = 1000000000;
+
     private static final int MILLION = 1000000;
     private static final long BILLION = 1000000000L;
     private static final long SEED_ROUND = 2147483648L;
@@ -475,7 +478,7 @@ public final class KingRansom {
 
     private int soonest(int waiting) {
         int best = 0;
-        int least = Integer.MAX_VALUE;
+        int least = ABOVE_ALL;
         for (int h = 0; h < tale.hostages; h++) {
             if ((waiting >> h & 1) != 0 && tale.daysOf[h] < least) {
                 least = tale.daysOf[h];
@@ -932,13 +935,13 @@ public final class KingRansom {
         private boolean find(State now, Tale tale, int wanted) {
             payers = tale.payers;
             much = wanted;
-            leastHidden = Integer.MAX_VALUE;
+            leastHidden = ABOVE_ALL;
             mostFrom[payers] = 0;
             for (int p = payers - 1; p >= 0; p--) {
                 mostFrom[p] = mostFrom[p + 1] + layOut(p, now.goods[p], tale.shy[p]);
             }
             tryFrom(0, 0, 0);
-            return leastHidden != Integer.MAX_VALUE;
+            return leastHidden != ABOVE_ALL;
         }
 
         private int layOut(int p, int goods, int shy) {
