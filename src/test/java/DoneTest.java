@@ -230,8 +230,8 @@ public final class DoneTest {
     /** From many seeds: how many months he lasts, and the seed behind it. */
     private static void driftByDraws() {
         check.part("promise 14, by draws");
-        KingRansom x = Check.of("k1 7;");
         for (int from = 0; from < 400; from++) {
+            KingRansom x = Check.of("k1 7;");
             long seed = from * 5368709L;
             x.seed((int) seed);
             int lasts = 0;

@@ -143,6 +143,8 @@ public final class KeptBoundsTest {
         bags(99, 8).due("isShort(-2)", 255);
         // eight by 5: four against four
         bags(99, 8).does("weigh(255, 787)").due("isShort(-1)", 8).due("isShort(-2)", 15);
+        bags(99, 8).does("weigh(255, 791)").due("isShort(-1)", 8).due("isShort(-2)", 15);
+        bags(99, 8).does("weigh(255, 783)").due("isShort(-1)", 8).due("isShort(-2)", 15);
         bags(1, 8).due("isShort(-1)", 8).due("isShort(-2)", 15);
         bags(1, 7).due("isShort(-2)", 7);
         bags(1, 3).due("isShort(-2)", 1);

@@ -174,102 +174,103 @@ public final class RansomTest {
         }
     }
 
-    /** Each text is told to one object, so that a fault leaves nothing behind. */
     private static void faults() {
         check.part("promises 3 and 4");
+        faultsOfPlace();
+        faultsOfNumbers();
+        faultsOfCounts();
+    }
+
+    private static void faultsOfPlace() {
+        fault("x", 1, 0);
+        fault("  p1 1;", 1, 2);
+        fault(";", 1, 0);
+        fault("1", 1, 0);
+        fault("K1 1;", 1, 0);
+        fault("\tk1 1;", 1, 0);
+        fault("w0 0;", 1, 0);
+        fault("k", 1, 1);
+        fault("k  ", 1, 3);
+        fault("k1", 1, 2);
+        fault("k1 ", 1, 3);
+        fault("k1 1", 1, 4);
+        fault("k1 1  ", 1, 6);
+        fault("k1;", 1, 2);
+        fault("k11;", 1, 3);
+        fault("k1,1;", 1, 2);
+        fault("k1 1 1;", 1, 5);
+        fault("k1 k", 1, 3);
+        fault("k1 1;;", 1, 5);
+        fault("k1 1;x", 1, 5);
+        fault("k1 1; 5", 1, 6);
+        fault("k1 1;p", 1, 6);
+        fault("k1 1;p5", 1, 7);
+        fault("k1 1;p5;", 1, 7);
+        fault("k1 1;p5 5", 1, 9);
+        fault("k1 1;p5 5p", 1, 9);
+        fault("k1 1;b;", 1, 6);
+        fault("k1 1;b,", 1, 6);
+        fault("k1 1;b1,", 1, 8);
+        fault("k1 1;b1,;", 1, 8);
+        fault("k1 1;b1 1;", 1, 8);
+        fault("k1 1;b1,,1;", 1, 8);
+        fault("k1 1;b1,1,1,1,1,1,1,1,1 ,1;", 1, 24);
+        fault("k1 1;b1,1,1,1,1,1,1,1,1,1000", 1, 23);
+        fault("k1 1;h;", 1, 6);
+        fault("k1 1;h1 1;", 1, 8);
+        fault("k1 1;h1,", 1, 7);
+        fault("k1 1;w1;", 1, 7);
+        fault("k1 1;w1 1 1;", 1, 10);
+        fault("k1 -1;", 1, 3);
+        fault("k1 1;p1 1;" + (char) 0, 1, 10);
+        fault("k1 1;p1 1;" + (char) 255, 1, 10);
+        fault("k1 1;p1 1;" + (char) ('p' + 128), 1, 10);
+        fault("k1 1;w1 w", 1, 8);
+    }
+
+    private static void faultsOfNumbers() {
+        fault("k0 1;", 2, 1);
+        fault("k000 1;", 2, 1);
+        fault("k1000 1;", 2, 1);
+        fault("k0001 1;", 2, 1);
+        fault("k99999999999999999999", 2, 1);
+        fault("k4294967297 1;", 2, 1);
+        fault("k 0 x", 2, 2);
+        fault("k0x", 2, 1);
+        fault("k0", 2, 1);
+        fault("k1 100;", 2, 3);
+        fault("k1 0000;", 2, 3);
+        fault("k1 1;p1000 1;", 2, 6);
+        fault("k1 1;p1 10;", 2, 8);
+        fault("k1 1;p1 0001;", 2, 8);
+        fault("k1 1;b1000;", 2, 6);
+        fault("k1 1;b1, 1000;", 2, 9);
+        fault("k1 1;b1,1,1,1,1,1,1,1,1000,1;", 2, 22);
+        fault("k1 1;h0;", 2, 6);
+        fault("k1 1;h100;", 2, 6);
+        fault("k1 1;w0 1;", 2, 6);
+        fault("k1 1;w100 1;", 2, 6);
+        fault("k1 1;w1 0;", 2, 8);
+        fault("k1 1;w1 9;", 2, 8);
+    }
+
+    private static void faultsOfCounts() {
+        fault("k1 1;k", 3, 5);
+        fault("k1 1; k1 1;", 3, 6);
+        fault("k1 1;k0", 3, 5);
+        fault("k1 1;b1;p1 1;b1;", 3, 13);
+        fault("k1 1;b1;b", 3, 8);
+        fault("k1 1;w1 1;w0", 3, 10);
+        fault("k1 1;p1 1;p1 1;p1 1;p1 1;p1 1;p1 1;p1 1;", 3, 35);
+        fault("k1 1;p1 1;p1 1;p1 1;p1 1;p1 1;p1 1;px", 3, 35);
+        fault("k1 1;h1;h1;h1;h1;h1;h1;h1;", 3, 23);
+        fault("k1 1;h1;h1;h1;h1;h1;h1;p1 10;h1;", 2, 26);
+    }
+
+    /** Told behind a text that has another fault, which must leave nothing behind. */
+    private static void fault(String text, int number, int place) {
         KingRansom x = new KingRansom();
-        faultsOfPlace(x);
-        faultsOfNumbers(x);
-        faultsOfCounts(x);
-    }
-
-    private static void faultsOfPlace(KingRansom x) {
-        fault(x, "x", 1, 0);
-        fault(x, "  p1 1;", 1, 2);
-        fault(x, ";", 1, 0);
-        fault(x, "1", 1, 0);
-        fault(x, "K1 1;", 1, 0);
-        fault(x, "\tk1 1;", 1, 0);
-        fault(x, "w0 0;", 1, 0);
-        fault(x, "k", 1, 1);
-        fault(x, "k  ", 1, 3);
-        fault(x, "k1", 1, 2);
-        fault(x, "k1 ", 1, 3);
-        fault(x, "k1 1", 1, 4);
-        fault(x, "k1 1  ", 1, 6);
-        fault(x, "k1;", 1, 2);
-        fault(x, "k11;", 1, 3);
-        fault(x, "k1,1;", 1, 2);
-        fault(x, "k1 1 1;", 1, 5);
-        fault(x, "k1 k", 1, 3);
-        fault(x, "k1 1;;", 1, 5);
-        fault(x, "k1 1;x", 1, 5);
-        fault(x, "k1 1; 5", 1, 6);
-        fault(x, "k1 1;p", 1, 6);
-        fault(x, "k1 1;p5", 1, 7);
-        fault(x, "k1 1;p5;", 1, 7);
-        fault(x, "k1 1;p5 5", 1, 9);
-        fault(x, "k1 1;p5 5p", 1, 9);
-        fault(x, "k1 1;b;", 1, 6);
-        fault(x, "k1 1;b,", 1, 6);
-        fault(x, "k1 1;b1,", 1, 8);
-        fault(x, "k1 1;b1,;", 1, 8);
-        fault(x, "k1 1;b1 1;", 1, 8);
-        fault(x, "k1 1;b1,,1;", 1, 8);
-        fault(x, "k1 1;b1,1,1,1,1,1,1,1,1 ,1;", 1, 24);
-        fault(x, "k1 1;b1,1,1,1,1,1,1,1,1,1000", 1, 23);
-        fault(x, "k1 1;h;", 1, 6);
-        fault(x, "k1 1;h1 1;", 1, 8);
-        fault(x, "k1 1;h1,", 1, 7);
-        fault(x, "k1 1;w1;", 1, 7);
-        fault(x, "k1 1;w1 1 1;", 1, 10);
-        fault(x, "k1 -1;", 1, 3);
-        fault(x, "k1 1;p1 1;" + (char) 0, 1, 10);
-        fault(x, "k1 1;p1 1;" + (char) 255, 1, 10);
-        fault(x, "k1 1;p1 1;" + (char) ('p' + 128), 1, 10);
-        fault(x, "k1 1;w1 w", 1, 8);
-    }
-
-    private static void faultsOfNumbers(KingRansom x) {
-        fault(x, "k0 1;", 2, 1);
-        fault(x, "k000 1;", 2, 1);
-        fault(x, "k1000 1;", 2, 1);
-        fault(x, "k0001 1;", 2, 1);
-        fault(x, "k99999999999999999999", 2, 1);
-        fault(x, "k4294967297 1;", 2, 1);
-        fault(x, "k 0 x", 2, 2);
-        fault(x, "k0x", 2, 1);
-        fault(x, "k0", 2, 1);
-        fault(x, "k1 100;", 2, 3);
-        fault(x, "k1 0000;", 2, 3);
-        fault(x, "k1 1;p1000 1;", 2, 6);
-        fault(x, "k1 1;p1 10;", 2, 8);
-        fault(x, "k1 1;p1 0001;", 2, 8);
-        fault(x, "k1 1;b1000;", 2, 6);
-        fault(x, "k1 1;b1, 1000;", 2, 9);
-        fault(x, "k1 1;b1,1,1,1,1,1,1,1,1000,1;", 2, 22);
-        fault(x, "k1 1;h0;", 2, 6);
-        fault(x, "k1 1;h100;", 2, 6);
-        fault(x, "k1 1;w0 1;", 2, 6);
-        fault(x, "k1 1;w100 1;", 2, 6);
-        fault(x, "k1 1;w1 0;", 2, 8);
-        fault(x, "k1 1;w1 9;", 2, 8);
-    }
-
-    private static void faultsOfCounts(KingRansom x) {
-        fault(x, "k1 1;k", 3, 5);
-        fault(x, "k1 1; k1 1;", 3, 6);
-        fault(x, "k1 1;k0", 3, 5);
-        fault(x, "k1 1;b1;p1 1;b1;", 3, 13);
-        fault(x, "k1 1;b1;b", 3, 8);
-        fault(x, "k1 1;w1 1;w0", 3, 10);
-        fault(x, "k1 1;p1 1;p1 1;p1 1;p1 1;p1 1;p1 1;p1 1;", 3, 35);
-        fault(x, "k1 1;p1 1;p1 1;p1 1;p1 1;p1 1;p1 1;px", 3, 35);
-        fault(x, "k1 1;h1;h1;h1;h1;h1;h1;h1;", 3, 23);
-        fault(x, "k1 1;h1;h1;h1;h1;h1;h1;p1 10;h1;", 2, 26);
-    }
-
-    private static void fault(KingRansom x, String text, int number, int place) {
+        Check.tell(x, "k7 7;p7 7;h7;b7,7;w7 77;");
         check.due("ransom() of '" + text + "'", Check.tell(x, text), -10 - number);
         check.due("fault() of '" + text + "'", x.fault(), place);
         check.due("told(0) behind '" + text + "'", x.told(0), 0);

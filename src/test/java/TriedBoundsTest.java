@@ -137,6 +137,9 @@ public final class TriedBoundsTest {
             x.due("spread(1000, " + p + ")", p == 5 ? 100 : p == 4 ? 25 : 0);
         }
         x.due("spread(5994, 6)", UNKNOWN);
+        check.part("section 3, SPREAD by fewer than there were in the text ahead of it");
+        x.told("k1 0;p10 0;").due("spread(10, 0)", 100).due("spread(11, 0)", NONE).due("spread(11, -1)", NONE).due("spread(10, 1)", UNKNOWN);
+        x.due("spared(100, 11)", NONE).due("leastRate(11)", NONE).due("brings(100)", 10);
     }
 
     private static void sellBounds() {
@@ -249,6 +252,9 @@ public final class TriedBoundsTest {
         check.part("section 3, LETTERS: each cut");
         // a billion by 1 of a hundred is 10000000, 100000, 1000, 10 and 0 behind the fifth
         x.due("letters(100, 1, 50, 4, 4)", 1000000).due("letters(100, 1, 50, 5, 5)", 0).due("letters(99, 1, 100, 4, 4)", 9 * 1000000 / (9 + 10000000));
+        // half a billion by 1: 5000000, 50000, 500, 5; by 2: 10000000, 200000, 4000, 80
+        x.due("letters(50, 1, 2, 4, 4)", 5 * 1000000 / 85).due("letters(50, 99, 98, 4, 0)", 5 * 1000000 / 85);
+        x.due("letters(50, 1, 2, 5, 5)", 0).due("letters(50, 2, 1, 5, 5)", 1000000).due("letters(50, 2, 1, 6, 6)", 0);
         check.part("section 3, those that said so first");
         // 10000000 by 7 thrice is 700000, 49000, 3430, then by 93 twice 3189, 2965; the other by 50: 495000000 .. 30937500
         x.due("letters(1, 7, 50, 5, 3)", (int) (2965L * 1000000L / (2965L + 30937500L)));
