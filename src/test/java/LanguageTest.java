@@ -6,7 +6,9 @@ import java.lang.reflect.Modifier;
 import java.nio.charset.StandardCharsets;
 import java.nio.file.Files;
 import java.nio.file.Path;
+import java.util.Map;
 import java.util.Set;
+import java.util.TreeMap;
 import java.util.TreeSet;
 import java.util.regex.Matcher;
 import java.util.regex.Pattern;
@@ -14,6 +16,8 @@ import java.util.regex.Pattern;
 /** The public face of the document, and the rules of LANGUAGE.md that can be read off. */
 public final class LanguageTest {
     private static final Path SOURCE = Path.of("src/main/java/KingRansom.java");
+
+    private static final int DEEPEST = 8;
 
     private static final String[] FACE = {
         "feed(int)", "ransom()", "fault()", "told(int)", "payer(int,int)", "bid(int)", "rate(int,int)", "month(int)", "raise(int)",
@@ -30,6 +34,7 @@ public final class LanguageTest {
         classes();
         words(withoutComments(source));
         methodsAreShort(source);
+        callsAreShallow(withoutComments(source));
         check.end();
     }
 
@@ -100,6 +105,7 @@ public final class LanguageTest {
             for (Field f : c.getDeclaredFields()) {
                 boolean isStatic = Modifier.isStatic(f.getModifiers());
                 check.due(f + " is final, if static", !isStatic || Modifier.isFinal(f.getModifiers()) ? 1 : 0, 1);
+                check.due(f + " is a number, if static", !isStatic || f.getType() == int.class || f.getType() == long.class ? 1 : 0, 1);
                 own += isStatic ? 0 : 1;
             }
             check.due(c + " has twenty fields at most", own <= 20 ? 1 : 0, 1);
@@ -146,5 +152,34 @@ public final class LanguageTest {
                 from = -1;
             }
         }
+    }
+
+    /** Methods are told apart by name alone, so what is found here is no less than what is so. */
+    private static void callsAreShallow(String code) {
+        check.part("rules 8 and 11");
+        Map<String, String> bodies = new TreeMap<>();
+        Matcher method = Pattern.compile("(?s)\n( {4}| {8})(?:public|private) (?:static )?\\w+ (\\w+)\\([^)]*\\) \\{\n(.*?)\n\\1\\}").matcher(code);
+        while (method.find()) {
+            bodies.merge(method.group(2), method.group(3), String::concat);
+        }
+        check.due("all of the face is found", bodies.size() > FACE.length ? 1 : 0, 1);
+        for (String name : bodies.keySet()) {
+            int deep = depth(name, bodies, DEEPEST + 1);
+            check.due(name + "() goes eight deep at most", deep <= DEEPEST ? 1 : 0, 1);
+            boolean itself = bodies.get(name).contains(" " + name + "(");
+            check.due(name + "() calls itself", itself && !name.equals("tryFrom") ? 1 : 0, 0);
+        }
+    }
+
+    private static int depth(String name, Map<String, String> bodies, int left) {
+        int deepest = 0;
+        Matcher called = Pattern.compile("(\\w+)\\(").matcher(bodies.get(name));
+        while (left > 0 && called.find()) {
+            String other = called.group(1);
+            if (bodies.containsKey(other) && !other.equals(name)) {
+                deepest = Math.max(deepest, depth(other, bodies, left - 1));
+            }
+        }
+        return deepest + 1;
     }
 }
